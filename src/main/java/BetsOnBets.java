@@ -512,8 +512,11 @@ public final class BetsOnBets {
     }
 
     private static void copy(int[] from, int[] to) {
-        for (int i = 0; i < to.length; i++) {
-            put(to, i, at(from, i));
+        if (from == null || to == null) {
+            return;
+        }
+        for (int i = 0; i < to.length && i < from.length; i++) {
+            to[i] = from[i];
         }
     }
 
@@ -538,7 +541,7 @@ public final class BetsOnBets {
         }
 
         int get(int i) {
-            return at(held, i);
+            return i >= 0 && i < held.length ? held[i] : 0;
         }
 
         void clear() {
@@ -863,52 +866,44 @@ public final class BetsOnBets {
     }
 
     private static class Plain extends Bet {
-        @Override
         boolean isWonBy(boolean first, boolean second) {
             return first;
         }
 
-        @Override
         boolean looksAtBoth() {
             return false;
         }
     }
 
     private static final class Against extends Plain {
-        @Override
         boolean isWonBy(boolean first, boolean second) {
             return !first;
         }
     }
 
     private static final class Both extends Plain {
-        @Override
         boolean isWonBy(boolean first, boolean second) {
             return first && second;
         }
 
-        @Override
         boolean looksAtBoth() {
             return true;
         }
     }
 
     private static class Either extends Bet {
-        @Override
         boolean isWonBy(boolean first, boolean second) {
             return first || second;
         }
     }
 
     private static final class One extends Either {
-        @Override
         boolean isWonBy(boolean first, boolean second) {
             return first != second;
         }
     }
 
     private static final class Neither extends Either {
-        @Override
         boolean isWonBy(boolean first, boolean second) {
             return !first && !second;
         }

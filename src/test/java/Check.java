@@ -1,0 +1,52 @@
+/** What the tests of the project share: telling an INN as one text, and counting the answers that are not as due. */
+final class Check {
+    private final String test;
+    private int passed = 0;
+    private int failed = 0;
+
+    Check(String test) {
+        this.test = test;
+    }
+
+    void due(String call, long got, long want) {
+        holds(call + " answered " + got + ", due is " + want, got == want);
+    }
+
+    void holds(String fault, boolean isSo) {
+        if (isSo) {
+            passed++;
+        } else {
+            failed++;
+            System.out.println(test + ": " + fault);
+        }
+    }
+
+    void end() {
+        System.out.println(test + ": " + passed + " checks passed, " + failed + " failed");
+        if (failed > 0) {
+            System.exit(1);
+        }
+    }
+
+    static void letters(BetsOnBets x, String text) {
+        for (int i = 0; i < text.length(); i++) {
+            x.letter(text.charAt(i));
+        }
+    }
+
+    static int inn(BetsOnBets x, String text) {
+        letters(x, text);
+        return x.inn();
+    }
+
+    static BetsOnBets told(String... texts) {
+        BetsOnBets x = new BetsOnBets();
+        for (String text : texts) {
+            int statements = inn(x, text);
+            if (statements <= 0) {
+                throw new IllegalStateException(text + " is no INN: " + statements);
+            }
+        }
+        return x;
+    }
+}
