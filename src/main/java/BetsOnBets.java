@@ -355,7 +355,7 @@ public final class BetsOnBets {
         }
     }
 
-    /** Comes all into the trial first, so that a FAULT further on leaves what was told as it was. */
+    /** All comes into the trial first, so that a FAULT further on leaves what was told as it was. */
     private int innTold() {
         trial.takeFrom(told);
         reader.begin();

@@ -428,6 +428,7 @@ public final class PromisesTest {
         due("never above", never.sure(2), 0);
         due("always nothing", never.sure(0), 0);
         due("of nobody", never.sure(LEAST), -1);
+        due("sure of one coin", Check.told(LOSES + "1,001;").sure(1), 1);
     }
 
     private static void likely() {
@@ -471,6 +472,13 @@ public final class PromisesTest {
         due("sparing, the least BET", Check.told("h50;", "bph0h010,312;bph0h05,121;bph0h05,121;").sparing(2), 115);
         due("sparing, the least STAKE",
                 Check.told("h50;", "bph0h020,212;beh0b11,121;bah0h010,332;").sparing(2), 120);
+        BetsOnBets changed = Check.told("h50;", "bph0h010,312;bph0h05,121;");
+        changed.set(0, 0, 4);
+        due("sparing after set()", changed.sparing(2), 108);
+        changed.set(0, 1, 2);
+        due("sparing after another set()", changed.sparing(2), 106);
+        BetsOnBets both = Check.told("h50;", "bph0h010,101;bah0h03,101;");
+        due("sparing, one BET at a time", both.sparing(0), 3);
         due("sparing by the last STAKE", Check.told(WINS + "5,101;").sparing(0), 99);
         due("sparing where nothing helps", Check.told(WINS + "5,001;").sparing(0), -9);
         due("sparing from the greatest STAKE", Check.told(WINS + "99,901;").sparing(0), -9);
@@ -486,6 +494,12 @@ public final class PromisesTest {
         due("safeOdds(-1)", x.safeOdds(-1), -1);
         dueBet(x, 0, 0, 0, 0, 10, 2, 0, 1);
         due("mean(1)", x.mean(1), 0);
+        BetsOnBets changed = Check.told("h50;", "bph0h010,001;bah0h010,201;");
+        due("safeOdds(0) beside 20 or -10", changed.safeOdds(0), 0);
+        changed.set(1, 0, 1);
+        due("safeOdds(0) beside 2 or -1", changed.safeOdds(0), 0);
+        changed.set(1, 1, 0);
+        due("safeOdds(0) beside 0 or -1", changed.safeOdds(0), 1);
         due("safeOdds of one always WON", Check.told(WINS + "5,301;").safeOdds(0), 0);
         due("safeOdds of one VOID", Check.told("bpb0b05,301;").safeOdds(0), 9);
         due("a MEAN cut to 0", Check.told("h77;h13;", "boh0h11,001;").safeOdds(0), 9);
