@@ -40,9 +40,8 @@ public final class BetsOnBets {
     private static final int FAULT_OF_LETTERS = -1000;
     private static final int FAULT_OF_SENSE = -2000;
 
-    private final Row letters = new Row(MOST_LETTERS);
+    private final Reader reader = new Reader();
     private final Row seen = new Row(PEOPLE);
-    private final Reader reader = new Reader(letters);
     private final Book told = new Book();
     private final Book trial = new Book();
     private final Book kept = new Book();
@@ -56,13 +55,13 @@ public final class BetsOnBets {
     }
 
     public int letter(int c) {
-        return taken(letters, c, MOST_LETTER);
+        return taken(reader.letters, c, MOST_LETTER);
     }
 
     public int inn() {
         int fault = reader.faultPlace();
         int answer = fault >= 0 ? FAULT_OF_LETTERS - fault : innTold();
-        letters.clear();
+        reader.letters.clear();
         return answer;
     }
 
@@ -349,7 +348,7 @@ public final class BetsOnBets {
             case 4:
                 return seen.size;
             case 5:
-                return letters.size;
+                return reader.letters.size;
             default:
                 return what >= 10 - NOBODY && what <= 10 - ROOM ? at(refusals, what - 10) : NONE;
         }
@@ -549,19 +548,15 @@ public final class BetsOnBets {
         }
     }
 
-    /** Reads letters STATEMENT by STATEMENT; once stuck, it reads no more, so that its place is the FAULT's. */
+    /** The letters, read STATEMENT by STATEMENT; once stuck, it reads no more, so that its place is the FAULT's. */
     private static final class Reader {
         private static final String DIGITS = "0123456789";
         private static final int HAPPENING = 0;
         private static final int BET = 1;
-        private final Row letters;
+        private final Row letters = new Row(MOST_LETTERS);
         private final int[] numbers = new int[NUMBERS];
         private int place = 0;
         private boolean isStuck = false;
-
-        Reader(Row letters) {
-            this.letters = letters;
-        }
 
         void begin() {
             place = 0;

@@ -1,11 +1,40 @@
+import java.util.ArrayList;
+import java.util.List;
+
 /** What the tests of the project share: telling an INN as one text, and counting the answers that are not as due. */
 final class Check {
+    /** Words of DOC.md, and the heading there under which they stand. */
+    record Sentence(String heading, String words) {
+    }
+
     private final String test;
+    private final List<Sentence> sentences = new ArrayList<>();
+    private String under = "";
+    private int passedAhead = 0;
     private int passed = 0;
     private int failed = 0;
 
     Check(String test) {
         this.test = test;
+    }
+
+    /** The checks from here on are for these words, so that a fault tells which sentence is broken. */
+    void sentence(String heading, String words) {
+        endSentence();
+        sentences.add(new Sentence(heading, words));
+        under = heading + ", \"" + words + "\": ";
+    }
+
+    private void endSentence() {
+        boolean isTested = under.isEmpty() || passed + failed > passedAhead;
+        passedAhead = passed + failed;
+        if (!isTested) {
+            holds("no check is made", false);
+        }
+    }
+
+    List<Sentence> sentences() {
+        return sentences;
     }
 
     void due(String call, long got, long want) {
@@ -17,11 +46,12 @@ final class Check {
             passed++;
         } else {
             failed++;
-            System.out.println(test + ": " + fault);
+            System.out.println(test + ": " + under + fault);
         }
     }
 
     void end() {
+        endSentence();
         System.out.println(test + ": " + passed + " checks passed, " + failed + " failed");
         if (failed > 0) {
             System.exit(1);
