@@ -7,6 +7,7 @@ final class Check {
     record Sentence(String heading, String words) {
     }
 
+    private static final int MOST_TOLD = 100;
     private final String test;
     private final List<Sentence> sentences = new ArrayList<>();
     private String under = "";
@@ -46,7 +47,9 @@ final class Check {
             passed++;
         } else {
             failed++;
-            System.out.println(test + ": " + under + fault);
+            if (failed <= MOST_TOLD) {
+                System.out.println(test + ": " + under + fault);
+            }
         }
     }
 

@@ -6,7 +6,9 @@ import java.lang.reflect.Modifier;
 import java.nio.file.Files;
 import java.nio.file.Path;
 import java.util.Arrays;
+import java.util.Map;
 import java.util.Set;
+import java.util.TreeMap;
 import java.util.TreeSet;
 import java.util.regex.Matcher;
 import java.util.regex.Pattern;
@@ -18,6 +20,9 @@ public final class LanguageTest {
     private static final int MOST_CLASSES = 12;
     private static final int MOST_FIELDS = 20;
     private static final int MOST_LINES = 60;
+    private static final int MOST_CALLS_DEEP = 8;
+    private static final Set<String> LIBRARY = Set.of("Math.max", "Math.min", "Math.abs", "Integer.bitCount",
+            "Integer.compare", "Math.floorMod", "Math.floorDiv");
     private static final String[] FACE = {
         "letter(int)", "inn()", "chance(int)", "bet(int,int)", "set(int,int,int)", "fund(int,int)", "ways(int,int)",
         "standing(int,int)", "purse(int,int)", "mean(int)", "worst(int,int)", "best(int,int)", "sure(int)",
@@ -27,7 +32,8 @@ public final class LanguageTest {
     private static final String[] FORBIDDEN = {
         "\\b(throw|throws|try|catch|finally|synchronized|assert|import|package|native|volatile)\\b", "->", "::", "@",
         "\\b(Thread|System|Random|Object|Class|Exception|Error|Throwable)\\b", "\\b\\w+Exact\\b",
-        "\\b(equals|hashCode|toString)\\b", "\\bstatic\\s*\\{"
+        "\\b(equals|hashCode|toString)\\b", "\\bstatic\\s*\\{", "\"\\s*\\+|\\+\\s*\"", "[^\\n -~]", "\\b(double|float)\\b",
+        "\\bprotected\\b", "\\binstanceof\\b", "\\byield\\b", "\\bvar\\b", "\\bgoto\\b"
     };
 
     public static void main(String[] args) throws IOException {
@@ -36,6 +42,9 @@ public final class LanguageTest {
         classesInside();
         forbidden(code);
         lengths(code);
+        library(code);
+        madeInConstructors(code);
+        depth(code);
         CHECK.end();
     }
 
@@ -113,5 +122,51 @@ public final class LanguageTest {
             CHECK.holds("too long: " + method.group().lines().findFirst(), method.group().lines().count() <= MOST_LINES);
         }
         CHECK.holds("methods found: " + methods, methods > FACE.length);
+    }
+
+    private static void library(String code) {
+        Matcher call = Pattern.compile("\\b([A-Z][a-z]\\w*\\.[a-z]\\w*)\\(").matcher(code);
+        while (call.find()) {
+            CHECK.holds(call.group(1) + " is not in the library", LIBRARY.contains(call.group(1)));
+        }
+    }
+
+    /** No method makes anything, so that a run of calls takes no more of the room than its objects do. */
+    private static void madeInConstructors(String code) {
+        bodies(code).forEach((name, body) -> CHECK.holds(name + " makes an object or an array",
+                Character.isUpperCase(name.charAt(0)) || !Pattern.compile("\\bnew\\b").matcher(body).find()));
+    }
+
+    /** By names alone: methods of one name are taken together, which can only make a chain of calls longer. */
+    private static void depth(String code) {
+        Map<String, String> bodies = bodies(code);
+        for (String name : bodies.keySet()) {
+            int depth = depthOf(name, bodies, 1);
+            CHECK.holds(name + " goes " + depth + " calls deep, or calls itself", depth <= MOST_CALLS_DEEP);
+        }
+    }
+
+    private static int depthOf(String name, Map<String, String> bodies, int depth) {
+        int deepest = depth;
+        if (depth <= MOST_CALLS_DEEP) {
+            Matcher call = Pattern.compile("\\b([a-z]\\w*)\\(").matcher(bodies.get(name));
+            while (call.find()) {
+                if (bodies.containsKey(call.group(1))) {
+                    deepest = Math.max(deepest, depthOf(call.group(1), bodies, depth + 1));
+                }
+            }
+        }
+        return deepest;
+    }
+
+    private static Map<String, String> bodies(String code) {
+        Map<String, String> bodies = new TreeMap<>();
+        Matcher method = Pattern.compile("(?m)^( {4}| {8})(?:[a-z][^;={}(]* )?(\\w+)\\([^)]*\\) \\{\\n((?:.*\\n)*?)\\1\\}")
+                .matcher(code);
+        while (method.find()) {
+            bodies.merge(method.group(2), method.group(3), String::concat);
+        }
+        CHECK.holds("methods found: " + bodies.size(), bodies.size() > FACE.length);
+        return bodies;
     }
 }

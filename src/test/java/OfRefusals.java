@@ -1,3 +1,6 @@
+import java.util.ArrayList;
+import java.util.List;
+
 /** Sentences of the Terms about THE IMAGE and REFUSALS. */
 final class OfRefusals {
     private static final String TERMS = "Terms";
@@ -111,40 +114,115 @@ final class OfRefusals {
         check.holds("not as then after trying", Refused.all(tried).equals(ahead));
     }
 
-    /** What is asked goes by what is told now, whatever was told, tried or refused ahead of it. */
+    /** What is asked goes by what is told now, whatever was told with a FAULT, changed or tried ahead of it. */
     private void now() {
         check.sentence(TERMS, "nothing changes but how many there were):");
         String happenings = "h30;h80;";
         String bets = "bph0h07,301;beh1b09,212;bpb2h06,430;";
         String funds = "f1,4;f2,60;";
-        String told = Refused.all(Check.told(happenings, bets, funds));
-        String[] faulty = {"h9;h8;h0;", "bxb0b199,930;bnh0h188,821;f9,0;", "f0,0;f1,0;f2,0;f3,0;bph2h01,001;", "h9;x"};
-        for (String text : faulty) {
-            BetsOnBets x = Check.told(happenings, bets, funds);
-            due(text, Check.inn(x, text) < 0 ? 1 : 0, 1);
-            check.holds("not as ahead of " + text, Refused.all(x).equals(told));
-            check.holds("not as ahead of " + text + ", a second time", Refused.all(x).equals(told));
+        Path direct = () -> Check.told(happenings, bets, funds);
+        for (int bettor = 0; bettor < 4; bettor++) {
+            for (int away = 1; away < 4; away++) {
+                String text = "bph0h099,0" + bettor + (bettor + away) % 4 + ";h8;f" + bettor + ",0;h0;";
+                due(text, Check.inn(direct.walked(), text), -2021);
+                dueAsBy(direct, "inn() of " + text, () -> {
+                    BetsOnBets x = direct.walked();
+                    Check.inn(x, text);
+                    return x;
+                });
+            }
         }
-        BetsOnBets set = Check.told(happenings, "bph0h01,001;beh1b099,912;bpb2h050,530;", funds);
-        int[][] numbers = {{7, 3}, {9, 2}, {6, 4}};
-        for (int bet = 0; bet < 3; bet++) {
-            set.set(bet, 0, numbers[bet][0]);
-            set.set(bet, 1, numbers[bet][1]);
+        dueAsBy(direct, "set()", () -> {
+            BetsOnBets x = Check.told(happenings, "bph0h01,001;beh1b099,912;bpb2h050,530;", funds);
+            int[][] numbers = {{7, 3}, {9, 2}, {6, 4}};
+            for (int bet = 0; bet < 3; bet++) {
+                x.set(bet, 0, numbers[bet][0]);
+                x.set(bet, 1, numbers[bet][1]);
+            }
+            return x;
+        });
+        dueAsBy(direct, "fund()", () -> {
+            BetsOnBets x = Check.told(happenings, bets, "f1,99;f2,0;f3,1;");
+            x.fund(1, 4);
+            x.fund(2, 60);
+            x.fund(3, 50);
+            return x;
+        });
+        dueAsBy(direct, "several INNS", () -> Check.told("h30;h80;bph0h07,301;f1,4;", "beh1b09,212;f2,60;", "bpb2h06,430;"));
+        dueAsBy(direct, "on()", () -> {
+            BetsOnBets x = direct.walked();
+            x.image();
+            Check.inn(x, "h50;bah2b19,901;f0,0;");
+            x.set(1, 1, 9);
+            x.on();
+            return x;
+        });
+        dueAsBy(direct, "trying", () -> {
+            BetsOnBets x = direct.walked();
+            x.sparing(3);
+            x.safeOdds(0);
+            return x;
+        });
+        nowWithoutWhatIsMarked();
+    }
+
+    /** BETS on BET 3, which has come and is not there now: neither RINGS nor VOIDS come from it. */
+    private void nowWithoutWhatIsMarked() {
+        Path direct = () -> Check.told("bpb3b31,101;bab3b31,112;bpb1b11,123;");
+        dueAsBy(direct, "a FAULT behind a RING", () -> {
+            BetsOnBets x = direct.walked();
+            Check.inn(x, "bpb0b01,001;h0;");
+            return x;
+        });
+        String[] later = {"bpb0b01,001;", "bab0b01,001;", "h50;beh0b01,001;", "h50;boh0b01,001;", "h50;bxh0b01,001;"};
+        for (String text : later) {
+            dueAsBy(direct, "on() from " + text, () -> {
+                BetsOnBets x = direct.walked();
+                x.image();
+                Check.inn(x, text);
+                x.on();
+                return x;
+            });
+            dueAsBy(direct, "on() and a FAULT with " + text, () -> {
+                BetsOnBets x = direct.walked();
+                x.image();
+                Check.inn(x, text);
+                x.on();
+                Check.inn(x, text + "h0;");
+                return x;
+            });
         }
-        check.holds("set() is not as telling it at once", Refused.all(set).equals(told));
-        BetsOnBets funded = Check.told(happenings, bets, "f1,99;f2,0;f3,1;");
-        funded.fund(1, 4);
-        funded.fund(2, 60);
-        funded.fund(3, 50);
-        check.holds("fund() is not as telling it at once", Refused.all(funded).equals(told));
-        BetsOnBets one = Check.told("h30;h80;bph0h07,301;f1,4;", "beh1b09,212;f2,60;", "bpb2h06,430;");
-        check.holds("several INNS are not as one", Refused.all(one).equals(told));
-        BetsOnBets back = Check.told(happenings, bets, funds);
-        back.image();
-        Check.inn(back, "h50;bah2b19,901;f0,0;");
-        back.set(1, 1, 9);
-        back.on();
-        check.holds("on() is not as telling it at once", Refused.all(back).equals(told));
+    }
+
+    /** A way to come to what is told. */
+    private interface Path {
+        BetsOnBets walked();
+    }
+
+    /** Each question is the first one that is asked at the end of the path. */
+    private void dueAsBy(Path direct, String name, Path path) {
+        List<Refused.Call> questions = questions();
+        for (int i = 0; i < questions.size(); i++) {
+            due("question " + i + " behind " + name, questions.get(i).on(path.walked()), questions.get(i).on(direct.walked()));
+        }
+        check.holds("all behind " + name, Refused.all(path.walked()).equals(Refused.all(direct.walked())));
+    }
+
+    private static List<Refused.Call> questions() {
+        List<Refused.Call> all = new ArrayList<>(List.of(x -> x.voids(), x -> x.host(), x -> x.rings(), x -> x.image(),
+                x -> x.fitting(0), x -> x.fitting(1), x -> x.bet(3, 0), x -> x.chance(2), x -> x.set(3, 0, 1)));
+        for (int i = 0; i < 4; i++) {
+            int n = i;
+            all.addAll(List.of(x -> x.mean(n), x -> x.worst(n, 0), x -> x.worst(n, 1), x -> x.best(n, 0),
+                    x -> x.best(n, 1), x -> x.sure(n), x -> x.likely(n), x -> x.sparing(n), x -> x.fund(n, 1)));
+            all.addAll(List.of(x -> x.purse(n, 0), x -> x.purse(n, 3), x -> x.purse(n, 4), x -> x.seeds(9, 12345, n),
+                    x -> x.safeOdds(n), x -> x.bet(n, 3), x -> x.chance(n), x -> x.count(n)));
+            all.addAll(List.of(x -> x.ways(n, 0), x -> x.ways(n, 1), x -> x.ways(n + 4, 0), x -> x.standing(n, 3),
+                    x -> x.standing(n, 4), x -> x.settling(n), x -> x.settling(n + 4), x -> x.cannotPay(n),
+                    x -> x.cannotPay(n + 4), x -> x.judge(n + 4)));
+            all.add(x -> x.row(500 + x.purse(0, n)) + 10 * x.row(500 + x.purse(1, n)) + 100 * x.fitting(0));
+        }
+        return all;
     }
 
     private void firstThatFits() {

@@ -144,6 +144,16 @@ final class OfWords {
         due("above in END 3 alone, at 0 else", lastEnd.sure(0), 1);
         due("below in END 3 alone, at 0 else", lastEnd.sure(1), 0);
         due("of one not in it", lastEnd.sure(3), 0);
+        BetsOnBets set = Check.told("h50;", "bph0h03,010;bah0h09,010;", LOSES + "5,001;");
+        due("-2 or 4", set.sure(0), 0);
+        set.set(0, 0, 9);
+        set.set(1, 0, 3);
+        due("4 or -2", set.sure(0), 0);
+        set.set(1, 0, 5);
+        due("4 or 0", set.sure(0), 1);
+        set.set(0, 0, 5);
+        set.set(1, 0, 9);
+        due("0 or 4", set.sure(0), 1);
     }
 
     private void likely() {
