@@ -23,6 +23,8 @@ public final class LanguageTest {
     private static final int MOST_CALLS_DEEP = 8;
     private static final Set<String> LIBRARY = Set.of("Math.max", "Math.min", "Math.abs", "Integer.bitCount",
             "Integer.compare", "Math.floorMod", "Math.floorDiv");
+    private static final Set<Class<?>> STATIC_TYPES = Set.of(int.class, long.class, boolean.class, char.class,
+            String.class, int[].class, long[].class, char[].class, byte[].class);
     private static final String[] FACE = {
         "letter(int)", "inn()", "chance(int)", "bet(int,int)", "set(int,int,int)", "fund(int,int)", "ways(int,int)",
         "standing(int,int)", "purse(int,int)", "mean(int)", "worst(int,int)", "best(int,int)", "sure(int)",
@@ -33,7 +35,8 @@ public final class LanguageTest {
         "\\b(throw|throws|try|catch|finally|synchronized|assert|import|package|native|volatile)\\b", "->", "::", "@",
         "\\b(Thread|System|Random|Object|Class|Exception|Error|Throwable)\\b", "\\b\\w+Exact\\b",
         "\\b(equals|hashCode|toString)\\b", "\\bstatic\\s*\\{", "\"\\s*\\+|\\+\\s*\"", "[^\\n -~]", "\\b(double|float)\\b",
-        "\\bprotected\\b", "\\binstanceof\\b", "\\byield\\b", "\\bvar\\b", "\\bgoto\\b"
+        "\\bprotected\\b", "\\binstanceof\\b", "\\byield\\b", "\\bvar\\b", "\\bgoto\\b",
+        "\\bnew\\s+\\w+\\([^)]*\\)\\s*\\{", "\\b(while|for)\\s*\\(\\s*(true\\b|;)", "\\bfor\\s*\\([^;]*;\\s*;", "\\]\\s*\\["
     };
 
     public static void main(String[] args) throws IOException {
@@ -95,6 +98,8 @@ public final class LanguageTest {
             int modifiers = field.getModifiers();
             ownFields += Modifier.isStatic(modifiers) ? 0 : 1;
             CHECK.holds(field + " is static and not final", !Modifier.isStatic(modifiers) || Modifier.isFinal(modifiers));
+            CHECK.holds(field + " is static and no constant",
+                    !Modifier.isStatic(modifiers) || STATIC_TYPES.contains(field.getType()));
             CHECK.holds(field + " is seen from outside", Modifier.isPrivate(modifiers));
         }
         CHECK.holds(type + " has too many fields", ownFields <= MOST_FIELDS);
